@@ -408,7 +408,8 @@ public final class PromisesTest {
         WeatherGlaze x = hills("potter run 39;young run 30;lad run 50;onions 7");
         x.change(0, 5, 9999);
         x.change(1, 5, 9999);
-        x.change(1, 6, 12);
+        x.change(0, 6, 5);
+        x.change(1, 6, 7);
         x.change(2, 6, 9999);
         x.change(0, 4, 3);
         x.change(1, 4, 3);
@@ -508,7 +509,21 @@ public final class PromisesTest {
         due("nothing changes", x.now(0), 0);
         x.go(3);
         due("when", x.when(2, 0), 0);
-        due("when", x.cracks(2), 4);
+        x.change(0, 5, 9970);
+        due("a FIRING behind 4, 11, .., 200 DAYS", x.when(0, 9999), 200);
+        x.go(6);
+        x.change(0, 5, 9970);
+        due("behind 201 DAYS", x.when(0, 9999), NONE);
+    }
+
+    /** Hills on a DAY, whose ABEL comes to POTS 50, and no longer cries, some WEEKS later. */
+    private static WeatherGlaze abelOn(int day, int grief, int potsInWeeks) {
+        WeatherGlaze x = hills("abel hours 9");
+        x.go(day);
+        x.change(0, 1, grief);
+        x.change(0, 3, 0);
+        x.change(0, 5, 50 - potsInWeeks);
+        return x;
     }
 
     private static void cracks() {
@@ -521,6 +536,8 @@ public final class PromisesTest {
         due("cracks", x.cracks(1), 2);
         x.change(1, 6, 9999);
         due("9999 at most", x.cracks(1), NONE);
+        due("behind 200 DAYS", abelOn(3, 99, 28).cracks(0), 200);
+        due("behind 201 DAYS", abelOn(2, 99, 28).cracks(0), NONE);
         due("cracks", x.cracks(2), BEYOND);
         due("cracks", x.cracks(-1), BEYOND);
         due("nothing changes", x.now(0), 12);
@@ -541,11 +558,22 @@ public final class PromisesTest {
         due("tinted", x.tinted(2, 0), BEYOND);
         due("tinted", x.tinted(-1, 0), BEYOND);
         due("nothing changes", x.now(0), 0);
-        // STONE with 8 RUN each DAY cracks; the DAY on which the place 0 alone is better is far.
+        tintedFar();
+        // STONE has 8 RUN each DAY, 56, and cracks; with RUN 10 first it has 66.
         WeatherGlaze y = steady(hills("stone hours 2"), 80);
         due("tinted", y.tinted(0, 0), NONE);
         y.change(0, 3, 10);
         due("66 is COLOUR 6", y.tinted(0, 6), 7);
+    }
+
+    /** Place 4 gives ABEL 20, in the WEEK of DAY 202 twice: he cracks (GRIEF 55) the WEEK before, alone. */
+    private static void tintedFar() {
+        WeatherGlaze x = abelOn(3, 40, 27);
+        x.weather(4, 84);
+        due("behind 200 DAYS", x.tinted(0, 1), 200);
+        WeatherGlaze y = abelOn(2, 40, 27);
+        y.weather(4, 84);
+        due("behind 201 DAYS", y.tinted(0, 1), NONE);
     }
 
     private static void hoursFor() {
@@ -560,6 +588,8 @@ public final class PromisesTest {
         due("hoursFor", x.hoursFor(0, 2, 14), 6);
         due("hoursFor", x.hoursFor(0, 8, 60), 6);
         due("HOURS are as they were", x.of(0, 2), 9);
+        x.change(0, 0, 5);
+        due("60 need 9 HOURS", x.hoursFor(0, 1, 7), 9);
         due("hoursFor", x.hoursFor(0, 9999, 60), NONE);
         due("hoursFor", x.hoursFor(0, 10000, 60), BEYOND);
         due("hoursFor", x.hoursFor(0, -1, 60), BEYOND);
@@ -595,6 +625,8 @@ public final class PromisesTest {
         due("griefFor", x.griefFor(0, 0), 0);
         // POTTER from G: the tenths of G, .., G - 6: 40 from 60 / 59 .. on: 6 + 5 * 6 = 36; 61: 37; 64: 40.
         due("griefFor", x.griefFor(1, 7), 64);
+        due("64 to 58 in the 6th WEEK, from 99", x.griefFor(1, 42), 99);
+        due("57 to 51 in the 7th cracks", x.griefFor(1, 49), NONE);
         due("griefFor", x.griefFor(2, 7), NONE);
         due("GRIEF is as it was", x.of(1, 1), 10);
         x.change(2, 6, 9999);
@@ -615,6 +647,8 @@ public final class PromisesTest {
         x.go(2);
         due("place 1 comes on DAY 7", x.weatherFor(1, 5), 0);
         due("THE LIST is as it was", x.listed(1), 0);
+        // Place 5 counts once: 9 * 9 / 2 and 9 are 49; with RUN 21 that is 70, COLOUR 7.
+        due("the most WEATHER", hills("potter grief 0 hours 9 run 21").weatherFor(5, 7), 99);
         due("weatherFor", x.weatherFor(1, 41), BEYOND);
         due("weatherFor", x.weatherFor(1, -1), BEYOND);
         due("weatherFor", x.weatherFor(6, 0), BEYOND);
@@ -629,6 +663,11 @@ public final class PromisesTest {
         due("onionsFor", x.onionsFor(6, 7), NONE);
         due("onionsFor", x.onionsFor(5, 6), NONE);
         due("ONIONS are as they were", x.now(2), 50);
+        // Three YOUNG ones in WEEK 5 have 15 by WEATHER and need 5 ONIONS each: 33 DAYS of 3 ONIONS.
+        WeatherGlaze y = steady(hills("young grief 0;young grief 0;young grief 0"), 2);
+        y.weather(0, 3);
+        due("the most ONIONS", y.onionsFor(75, 35), 99);
+        due("onionsFor", y.onionsFor(76, 35), NONE);
         // SOLD that is there already counts.
         x.change(0, 3, 30);
         due("go", x.go(7), 5);
@@ -720,6 +759,10 @@ public final class PromisesTest {
         due("grief", x.grief(2, 1), 80);
         tell(x, 2, 32, 8);
         due("grief", x.grief(2, 1), NONE);
+        // 92 to 86 give 59 in WEEK 2, and 1 by SUN: 60; from 98 on it's 59.
+        tell(x, 2, 32, -1, -1, 6);
+        x.weather(0, 1);
+        due("the most GRIEF", x.grief(2, 1), 99);
         tell(x, 2, 32);
         due("grief", x.grief(2, 1), 0);
         toldFindings(x, false);
@@ -936,7 +979,17 @@ public final class PromisesTest {
         fault("lad run 999999999999999999999999999999999999999999999999", 8);
         fault("lad run 1 hours 2", 10);
         fault("lad run 1 grief 2", 10);
+        fault("lad run 1 run 2", 10);
         fault("lad runs 1", 4);
+        fault("bad", 0);
+        fault("lag", 0);
+        fault("la", 0);
+        fault("ladz", 0);
+        fault("lada", 0);
+        fault("lad{", 3);
+        fault("lad`", 3);
+        fault("onions 1:", 8);
+        fault("onions 1/", 8);
         fault("ladgrief 1", 0);
         fault("onions", 6);
         fault("onions 100", 7);
@@ -1105,10 +1158,16 @@ public final class PromisesTest {
         due("copy", x.copy(0, 0, 3, 0, 1), MISSING);
         due("copy", x.copy(3, 0, 0, 0, -1), MISSING);
         due("copy", x.copy(3, 0, 4, 0, 1), BEYOND);
+        due("copy", x.copy(4, 0, 3, 0, 1), BEYOND);
+        due("copy", x.copy(0, 0, -1, 0, 1), BEYOND);
         due("copy", x.copy(-1, 0, 3, 0, 1), BEYOND);
         due("copy", x.copy(LEAST, 0, MOST, 0, 1), BEYOND);
         due("as it was", x.load(1), 3);
         lists(x, 0, 4, 5);
+        due("the whole", x.copy(1, 0, 0, 3, 3), 3);
+        due("the whole onto itself", x.copy(0, 0, 0, 0, 6), 6);
+        due("load", x.load(0), 6);
+        lists(x, 1, 2, 3, 0, 4, 5);
     }
 
     private static void lists(WeatherGlaze x, int... due) {
@@ -1184,8 +1243,6 @@ public final class PromisesTest {
         due("but THE TAPE", x.count(5), 2);
         due("and SHEETS", x.write(0, 0, 7), 1);
         due("count", x.count(1), 2);
-        due("a POTTER of later is new", x.potter(0, 3), 2);
-        due("as at first", x.of(2, 3), 0);
     }
 
     private static void upset(WeatherGlaze x) {
@@ -1233,6 +1290,28 @@ public final class PromisesTest {
         due("which stays", x.undo(), 5);
         due("DAY", x.now(0), 5);
         due("findings stay", x.status(3), 1);
+        undoPotter();
+    }
+
+    private static void undoPotter() {
+        WeatherGlaze x = hills("lad");
+        x.image();
+        x.potter(5, 70);
+        for (int what = 0; what < 7; what++) {
+            x.change(1, what, 6);
+        }
+        x.change(1, 3, 900);
+        due("undo", x.undo(), 0);
+        int[] due = {0, 0, 0, 0, 0, 0, 0, 0};
+        for (int what = 0; what < 8; what++) {
+            due("nothing is left of it: now " + what, x.now(what), due[what]);
+        }
+        due("of", x.of(1, 0), BEYOND);
+        due("a POTTER of later is new", x.potter(0, 3), 1);
+        int[] first = {0, 3, 2, 0, 0, 0, 0};
+        for (int what = 0; what < 7; what++) {
+            due("as at first: of " + what, x.of(1, what), first[what]);
+        }
     }
 
     private static void tear() {
@@ -1253,8 +1332,8 @@ public final class PromisesTest {
         WeatherGlaze x = steady(hills("potter hours 9;stone hours 0"), 90);
         feedAll(x, "12345");
         x.seed(-5);
-        x.hold(2, 0);
-        x.hold(7, 0);
+        x.hold(0, 0);
+        x.hold(9, 0);
         x.hold(8, -1);
         x.go(14);
         // The POTTER: 40 a DAY and 1 on DAY 0: 281: 28 modulo 8 is 4; 280 then, too.
@@ -1315,15 +1394,17 @@ public final class PromisesTest {
         x.go(20);
         due("storms", x.storms(20), STATE);
         due("z is as it was", x.count(6), 1);
-        x.storms(18);
-        due("DAY", x.now(0), 99998);
-        due("go", x.go(2), STATE);
+        x.storms(17);
+        due("DAY", x.now(0), 99997);
+        due("go", x.go(3), STATE);
         due("go", x.go(1), x.now(1));
+        due("storms", x.storms(2), STATE);
+        due("storms", x.storms(1), x.now(1));
         due("DAY", x.now(0), 99999);
         due("go", x.go(1), STATE);
         due("storms", x.storms(1), STATE);
         due("go: BEYOND is asked first", x.go(61), BEYOND);
         due("DAY stays 99999, no FIRING comes", x.cracks(0), NONE);
-        due("status", x.status(4), 5);
+        due("status", x.status(4), 6);
     }
 }
