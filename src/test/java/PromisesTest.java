@@ -707,7 +707,7 @@ public final class PromisesTest {
     }
 
     private static void fits() {
-        // ABEL: COLOUR 1 from GRIEF 50 on, if RUN comes to 30: 9 days of nothing but crying do.
+        // ABEL: COLOUR 1 from GRIEF 50 on: 12 or more a DAY by crying alone are enough for 30.
         WeatherGlaze x = hills("abel;potter");
         tell(x, 0, 8, 0, 1);
         due("fits", x.fits(0, 0), 50);
@@ -731,20 +731,28 @@ public final class PromisesTest {
         // POTTER: 40 to 49 (COLOUR 4) by tenths of G, .., G - 6: G 64 to 79 (5 * 6 + 2 * 5 to 7 * 7).
         tell(x, 2, 8, 0, 4);
         due("fits", x.fits(2, 1), 16);
-        toldFindings(x, true);
+        toldFindings(x);
     }
 
     /** What fits(), grief() and kinds() ask, in their order. */
-    private static void toldFindings(WeatherGlaze x, boolean isFits) {
+    private static void toldFindings(WeatherGlaze x) {
         x.sheet(3, 0, 0);
         int[][] calls = {{-1, 0, BEYOND}, {4, 0, BEYOND}, {4, 9, BEYOND}, {LEAST, 0, BEYOND}, {MOST, 0, BEYOND},
             {3, 0, MISSING}, {3, 9, MISSING}, {0, 2, BEYOND}, {0, -1, BEYOND}, {0, LEAST, BEYOND}, {0, MOST, BEYOND}};
         for (int[] call : calls) {
             int missing = x.status(5);
             int beyond = x.status(0);
-            int got = isFits ? x.fits(call[0], call[1]) : promise == 22 ? x.grief(call[0], call[1]) : x.kinds(call[0], call[1]);
+            int got = askTold(x, call[0], call[1]);
             due("told " + call[0] + ", " + call[1], got, call[2]);
             due("one finding", x.status(5) - missing + x.status(0) - beyond, 1);
+        }
+    }
+
+    private static int askTold(WeatherGlaze x, int s, int potter) {
+        switch (promise) {
+            case 21: return x.fits(s, potter);
+            case 22: return x.grief(s, potter);
+            default: return x.kinds(s, potter);
         }
     }
 
@@ -765,7 +773,7 @@ public final class PromisesTest {
         due("the most GRIEF", x.grief(2, 1), 99);
         tell(x, 2, 32);
         due("grief", x.grief(2, 1), 0);
-        toldFindings(x, false);
+        toldFindings(x);
     }
 
     private static void kinds() {
@@ -784,7 +792,7 @@ public final class PromisesTest {
         tell(x, 0, 8);
         due("kinds", x.kinds(0, 0), 127);
         due("KIND is as it was", x.of(0, 0), 0);
-        toldFindings(x, false);
+        toldFindings(x);
     }
 
     private static int drawn(int z) {
@@ -1391,6 +1399,10 @@ public final class PromisesTest {
         due("DAY", x.now(0), 99960);
         due("go", x.go(40), STATE);
         due("DAY", x.now(0), 99960);
+        x.image();
+        due("go to the last DAY", x.go(39), x.now(1));
+        due("DAY", x.now(0), 99999);
+        x.undo();
         x.go(20);
         due("storms", x.storms(20), STATE);
         due("z is as it was", x.count(6), 1);
