@@ -337,7 +337,7 @@ public final class WeatherGlaze {
         }
         int fitting = 0;
         for (int grief = 0; grief <= MOST_GRIEF; grief++) {
-            if (isGriefAsTold(s, potter, grief)) {
+            if (isAsTold(sheets[s], potter, 1, grief)) {
                 fitting++;
             }
         }
@@ -350,7 +350,7 @@ public final class WeatherGlaze {
             return finding(fault);
         }
         for (int grief = 0; grief <= MOST_GRIEF; grief++) {
-            if (isGriefAsTold(s, potter, grief)) {
+            if (isAsTold(sheets[s], potter, 1, grief)) {
                 return grief;
             }
         }
@@ -364,9 +364,7 @@ public final class WeatherGlaze {
         }
         int set = 0;
         for (int kind = 0; kind < KINDS; kind++) {
-            trial.become(hills);
-            trial.potters[potter].kind = kind;
-            if (isTrialAsTold(sheets[s], potter)) {
+            if (isAsTold(sheets[s], potter, 0, kind)) {
                 set |= 1 << kind;
             }
         }
@@ -381,13 +379,10 @@ public final class WeatherGlaze {
         return isPotter(potter) ? FINE : BEYOND;
     }
 
-    private boolean isGriefAsTold(int s, int potter, int grief) {
+    /** Whether COLOURS would be as told, if KIND (what 0) or GRIEF (1) of a POTTER were v now. */
+    private boolean isAsTold(Sheet told, int potter, int what, int v) {
         trial.become(hills);
-        trial.potters[potter].grief = grief;
-        return isTrialAsTold(sheets[s], potter);
-    }
-
-    private boolean isTrialAsTold(Sheet told, int potter) {
+        trial.potters[potter].put(what, v);
         int asked = Math.min(told.length, ASKED_WEEKS);
         for (int week = 0; week < asked; week++) {
             if (week > 0) {
