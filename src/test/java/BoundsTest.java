@@ -742,6 +742,9 @@ public final class BoundsTest {
         fault("lad 1", 4);
         fault("ladlad", 0);
         fault("lads", 0);
+        fault("lada", 0);
+        fault("ladz", 0);
+        fault("zlad", 0);
         fault("la", 0);
         fault("la d", 0);
         fault("potters", 0);
@@ -942,15 +945,19 @@ public final class BoundsTest {
             "image", "wipe = 3", "sheet 0 0 0", "undo = 0", "count 5 = 0", "load 0 = MISSING");
         Script full = new Script("38 from eight POTTERS to none, and back").then("image");
         for (int p = 0; p < 8; p++) {
-            full.then("potter 4 99", "hold " + p + " " + p);
+            full.then("potter 4 99", "hold " + p + " " + p, "change " + p + " 2 9", "change " + p + " 3 999");
+            full.then("change " + p + " 4 7", "change " + p + " 5 9999", "change " + p + " 6 9999");
         }
-        full.then("undo = 0", "count 1 = 0", "count 7 = 0", "of 0 0 = BEYOND");
+        full.then("undo = 0", "count 1 = 0", "count 7 = 0", "of 0 0 = BEYOND", "now 3 = 0", "now 4 = 0", "now 5 = 0",
+            "now 6 = 0", "now 7 = -1");
         for (int p = 0; p < 8; p++) {
             full.then("potter 1 1 = " + p);
+            for (int what = 0; what < 7; what++) {
+                full.then("of " + p + " " + what + " = " + new int[] {1, 1, 2, 0, 0, 0, 0}[what]);
+            }
         }
         full.then("potter 0 0 = FULL", "hold 9 7", "image", "change 7 3 999", "hold 9 -1", "undo = 0", "of 7 3 = 0",
-            "as 9 1 = 7", "potter 0 0 = FULL")
-            .end();
+            "as 9 1 = 7", "potter 0 0 = FULL").end();
         Script.run("38 findings stay", "image", "go 0 = BEYOND", "undo = 0", "status 0 = 1", "tear = 1", "undo = NONE",
             "status 3 = 1");
         Script.run("38 SOLD and ONIONS", "'young grief 0 run 30;onions 9' = 2", "image", "go 7 = 5", "now 2 = 2",

@@ -42,6 +42,7 @@ public final class RefusedCallsTest {
         none();
         missing();
         size();
+        state();
         order();
         asking();
         Script.report();
@@ -371,6 +372,37 @@ public final class RefusedCallsTest {
                 }
             }
         }
+    }
+
+    /** DAY 99960 is far beyond the calls that are promised; what is told of STATE holds there all the same. */
+    private static void state() {
+        Script called = lastDays("STATE");
+        Script other = lastDays("STATE");
+        called.then("go 40 = STATE", "go 60 = STATE", "go 61 = BEYOND", "go 0 = BEYOND", "storms 21 = BEYOND");
+        same(called, "what is there", hillsOf(called), hillsOf(other));
+        called.then("image", "go 39", "now 0 = 99999", "go 1 = STATE", "storms 1 = STATE", "now 0 = 99999",
+            "undo = 99960", "go 38", "now 0 = 99998", "go 2 = STATE", "storms 2 = STATE", "storms 1", "now 0 = 99999",
+            "undo = 99960", "go 20", "storms 20 = STATE", "count 6 = 1", "storms 19", "now 0 = 99999");
+        // Reading what is there asks for POTTERS that are not, in both.
+        List<Long> due = other.status();
+        due.set(0, due.get(0) + 10);
+        due.set(1, due.get(1) + 3);
+        due.set(5, due.get(5) + 7);
+        same(called, "status", called.status(), due);
+    }
+
+    private static Script lastDays(String title) {
+        Script s = scene(new String[] {"'lad;young grief 99' = 2", "weather 3 77", "hold 0 1"}, title);
+        for (int i = 0; i < 1666; i++) {
+            s.then("go 60");
+        }
+        return s.then("onions 7", "now 0 = 99960");
+    }
+
+    private static List<Long> hillsOf(Script s) {
+        List<Long> told = new ArrayList<>();
+        readHills(s, told);
+        return told;
     }
 
     // ---- the order in which they are asked
