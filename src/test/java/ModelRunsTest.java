@@ -485,7 +485,8 @@ public final class ModelRunsTest {
                 if (sun >= 0) c.list[i] = 10 * rain + sun;
                 return sun >= 0;
             }
-            int kind = Arrays.asList("potter", "young", "old", "widower", "abel", "stone", "lad").indexOf(tokens.get(at));
+            int kind = Arrays.asList("potter", "young", "old", "widower", "abel", "stone", "lad")
+                .indexOf(tokens.get(at));
             if (kind < 0 || c.all.size() == 8) return false;
             at++;
             One o = new One();

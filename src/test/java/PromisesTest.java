@@ -839,7 +839,8 @@ public final class PromisesTest {
 
     private static void odds() {
         // LAD with HOURS 9: 50 or more from RAIN 8 on alone: 20 of 100.
-        WeatherGlaze x = hills("lad hours 9 run 999;young grief 99 hours 9;stone;abel grief 99 hours 0;abel grief 80 hours 0");
+        WeatherGlaze x = hills("lad hours 9 run 999;young grief 99 hours 9;stone;"
+            + "abel grief 99 hours 0;abel grief 80 hours 0");
         oddsOf(x, 0, 0, 1, 1);
         oddsOf(x, 0, 1, 1, 5);
         oddsOf(x, 0, 9, 1, 1953125);
