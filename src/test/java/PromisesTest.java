@@ -473,6 +473,9 @@ public final class PromisesTest {
         }
         due("nothing changes", x.now(0), 0);
         due("nothing changes", x.now(1), 0);
+        due("go", x.go(7), 37);
+        due("what was SOLD counts", x.sold(0), 37);
+        due("what was SOLD counts", x.sold(7), 37 * 2);
     }
 
     /** What a POTTER with 7 RUN by WEATHER each DAY fetches in some WEEKS, from a GRIEF on. */
@@ -502,6 +505,7 @@ public final class PromisesTest {
         due("when", x.when(1, 1), 63);
         x.change(0, 5, 9999);
         due("when", x.when(0, 9999), 0);
+        due("more than asked", x.when(0, 9998), 0);
         due("when", x.when(0, 10000), BEYOND);
         due("when", x.when(0, -1), BEYOND);
         due("when", x.when(3, 0), BEYOND);
